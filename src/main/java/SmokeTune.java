@@ -487,9 +487,6 @@ public final class SmokeTune {
             put(house, COAL, coal);
             put(house, DINNER, dinner);
             put(house, WANTED, wanted);
-            // a place may still hold what a house had that back() took away
-            put(house, FIRE, 0);
-            put(house, WARMTH, 0);
             houses++;
             return house;
         }
@@ -588,15 +585,15 @@ public final class SmokeTune {
         /** Goes to the next token. */
         private void step() {
             from = to;
-            while (from < length && byteAt(from) == ' ') {
+            while (from < length && bytes[from] == ' ') {
                 from++;
             }
-            first = byteAt(from);
+            first = from < length ? bytes[from] : NONE;
             number = first >= '0' && first <= '9' ? first - '0' : NONE;
             boolean word = first >= 'a' && first <= 'z';
             to = Math.min(length, from + 1);
             while (to < length) {
-                int next = byteAt(to);
+                int next = bytes[to];
                 boolean digits = number != NONE && next >= '0' && next <= '9';
                 boolean letters = word && next >= 'a' && next <= 'z';
                 if (!digits && !letters) {
@@ -614,8 +611,8 @@ public final class SmokeTune {
             for (int i = 0; i <= words.length(); i++) {
                 char sign = i < words.length() ? words.charAt(i) : ' ';
                 if (sign != ' ') {
-                    same = same >= 0 && byteAt(from + same) == sign ? same + 1 : NONE;
-                } else if (same == to - from) {
+                    same = same >= 0 && from + same < to && bytes[from + same] == sign ? same + 1 : NONE;
+                } else if (same > 0 && from + same == to) {
                     return place;
                 } else {
                     place++;
@@ -1340,21 +1337,23 @@ public final class SmokeTune {
         }
 
         private int leastCoal(Town town, int house, int n, int hours, int i) {
-            Arrays.fill(coal, n * FIRES, (n + 1) * FIRES, 0);
+            for (int fire = 0; fire < FIRES; fire++) {
+                coal[n * FIRES + fire] = 0;
+            }
             for (int t = n - 1; t >= 0; t--) {
                 askHour(town, house, t);
                 for (int fire = 0; fire < FIRES; fire++) {
                     settleHour(town, t, fire, (hours >> t & 1) == 1);
                 }
             }
-            int fire = town.fact(house, FIRE);
-            if (!within(fire, 0, MOST_FIRE) || coal[fire] >= NEVER) {
+            int now = town.fact(house, FIRE);
+            if (!within(now, 0, MOST_FIRE) || coal[now] >= NEVER) {
                 return NONE;
             }
             for (int t = 0; t < i; t++) {
-                fire = after[t * FIRES + fire];
+                now = after[t * FIRES + now];
             }
-            return i == NONE ? coal[fire] : stokes[i * FIRES + fire];
+            return i == NONE ? coal[now] : stokes[i * FIRES + now];
         }
 
         private void askHour(Town town, int house, int t) {
@@ -1516,14 +1515,16 @@ public final class SmokeTune {
             return within(house, 0, HOUSES - 1) ? best[house] : NONE;
         }
 
-        /** Fills in of each set of houses which notes are in it. */
+        /** Tells of each set of houses which notes are in it; how many sets there are. */
         private int mapSets(Town town) {
-            int sets = 1 << town.houses;
-            for (int set = 1; set < sets && set < setNotes.length; set++) {
-                int lowest = Integer.numberOfTrailingZeros(set);
-                setNotes[set] = setNotes[set & set - 1] | 1 << town.fact(lowest, NOTE);
+            int sets = 1;
+            for (int h = 0; h < town.houses && h < HOUSES; h++) {
+                for (int set = 0; set < sets; set++) {
+                    setNotes[sets + set] = setNotes[set] | 1 << town.fact(h, NOTE);
+                }
+                sets *= 2;
             }
-            return Math.min(sets, setNotes.length);
+            return sets;
         }
 
         private int hillSet(Town town, int i) {

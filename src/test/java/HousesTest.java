@@ -230,6 +230,22 @@ public final class HousesTest {
         x.force(-1);
         due(16, "0 and 2 are not beside each other", x.discord(), 2);
         due(16, "FINES are as they were", x.count(12), 0);
+        discordsOfAllNotes();
+    }
+
+    private static void discordsOfAllNotes() {
+        for (int low = 0; low < 7; low++) {
+            for (int high = 0; high < 7; high++) {
+                SmokeTune x = new SmokeTune();
+                x.house(low, 3, 9, 0, 0);
+                x.house(high, 3, 9, 1, 1);
+                x.stoke(0);
+                due(16, "one alone", x.discord(), 0);
+                x.stoke(1);
+                boolean beside = high == (low + 1) % 7 || low == (high + 1) % 7;
+                due(16, low + " and " + high, x.discord(), beside ? 1 : 0);
+            }
+        }
     }
 
     private static void whatSounds() {
@@ -349,6 +365,12 @@ public final class HousesTest {
         due(21, "FINES by the law", x.count(12), 9);
         x.pass();
         due(21, "FIRE is 0 at least", x.of(0, 5), 0);
+        law(x, "flares 20;burns house*3+1;burns 9 if coal=7");
+        x.stoke(0);
+        x.stoke(1);
+        x.pass();
+        due(21, "FIRE of 0", x.of(0, 5), 19);
+        due(21, "FIRE of 1", x.of(1, 5), 16);
     }
 
     private static void limitsOfPassing() {
@@ -413,6 +435,14 @@ public final class HousesTest {
         due(22, "FIRE", x.of(1, 5), 0);
         due(22, "undo() of stoke()", x.undo(), 0);
         due(22, "undo() no more", x.undo(), -3);
+        x.stoke(0);
+        x.stoke(1);
+        x.pass();
+        x.pass();
+        due(22, "FINES", x.count(12), 2);
+        x.undo();
+        due(22, "FINES that were there ahead", x.count(12), 1);
+        due(22, "WARMTH that was there ahead", x.of(0, 6), 4);
         x.terms(0, 23);
         x.terms(1, 4);
         x.pass();

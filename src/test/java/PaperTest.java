@@ -15,6 +15,7 @@ public final class PaperTest {
         leastThatCannotBe();
         rings();
         tuning();
+        tuningTheFirstRow();
         tuningWholeTown();
         hearing();
         onTheHill();
@@ -100,6 +101,12 @@ public final class PaperTest {
         law(x, "flares 20");
         rowDue(x, "too high", 1, 1, -1);
         rowDue(x, "too high is silent", 1, 0, 0, 0);
+        SmokeTune y = new SmokeTune();
+        y.house(0, 0, 7, 0, 0);
+        y.stoke(0);
+        law(y, "bars;burns 2 if fire=4;burns 0");
+        rowDue(y, "barred, and it SOUNDS where it may not", 1, 0, -1);
+        rowDue(y, "barred, and burns as it will", 3, 7, 0, 0, 0, 0);
     }
 
     private static void leastThatCannotBe() {
@@ -153,6 +160,13 @@ public final class PaperTest {
             due(24, "eight houses: " + d, z.rings(d), has[d]);
         }
         due(24, "DINNERS are as they were", z.of(0, 3), 0);
+        SmokeTune w = new SmokeTune();
+        for (int d = 0; d < 8; d++) {
+            w.house(0, 0, 0, d, (d + 3) % 8);
+        }
+        for (int d = 0; d < 8; d++) {
+            due(24, "a ring of eight: " + d, w.rings(d), (d + 3) % 8);
+        }
     }
 
     private static void tuning() {
@@ -185,6 +199,22 @@ public final class PaperTest {
         due(25, "6, 0, 0, 1", x.tune(1, 0), 2);
         due(25, "6, 0, 0, 1: the last", x.tune(1, 6), 0);
         due(25, "NOTES are as they were", x.of(0, 0), 6);
+    }
+
+    private static void tuningTheFirstRow() {
+        int[][] notes = {{6, 6, 0}, {2, 2, 1}, {2, 1, 2}, {0, 1, 2}, {1, 0, 6}, {3, 4, 3, 4}};
+        int[][] first = {{6, 6, 1}, {2, 2, 0}, {2, 0, 2}, {0, 0, 2}, {1, 1, 6}, {2, 4, 2, 4}};
+        int[] moved = {1, 1, 1, 1, 1, 2};
+        for (int i = 0; i < notes.length; i++) {
+            SmokeTune x = new SmokeTune();
+            for (int h = 0; h < notes[i].length; h++) {
+                x.house(notes[i][h], 2, 0, h, h);
+            }
+            due(25, "the first row: moved of " + i, x.tune(2, 0), moved[i]);
+            for (int h = 0; h < notes[i].length; h++) {
+                due(25, "the first row: NOTE of " + i + ", " + h, x.tune(2, 1 + h), first[i][h]);
+            }
+        }
     }
 
     private static void tuningWholeTown() {

@@ -183,6 +183,13 @@ public final class TextsTest {
         fault(true, "bars bars", 5);
         fault(true, "bars 1", 5);
         fault(true, "Bars", 0);
+        fault(true, "ars", 0);
+        fault(true, "rs", 0);
+        fault(true, "barss", 0);
+        fault(true, "bar", 0);
+        fault(true, "burn s 1", 0);
+        fault(true, "burns ote", 6);
+        fault(true, "burns fir", 6);
         fault(true, "barsif 1=1", 0);
         fault(true, "bars if", 7);
         fault(true, "bars if 1", 9);
@@ -297,6 +304,10 @@ public final class TextsTest {
         due(11, "1=1", test("1=1"), 1);
         due(11, "1=2", test("1=2"), 0);
         due(11, "not 1=2", test("not 1=2"), 1);
+        due(11, "not 1=1", test("not 1=1"), 0);
+        due(11, "not 1<2", test("not 1<2"), 0);
+        due(11, "not 2>1", test("not 2>1"), 0);
+        due(11, "not 2<1", test("not 2<1"), 1);
         due(11, "not not 1=2", test("not not 1=2"), 0);
         due(11, "or behind and", test("1=1 or 1=1 and 1=2"), 1);
         due(11, "and ahead of or", test("1=2 and 1=1 or 1=1"), 1);
@@ -466,6 +477,10 @@ public final class TextsTest {
         due(12, "sounds 1", bought("buy 0 by sounds 1"), 2);
         due(12, "sounds 1 and 0", bought("buy 0 by sounds 0+7"), 7);
         due(12, "sounds 0 then", bought("stoke 0;buy 0 by sounds 0+7"), 8 - 1);
+        due(12, "sounds asked anew", bought("stoke 0;damp 1 by 4;pass;buy 0 by 10*sounds 0+sounds 1"), 11 - 1);
+        due(12, "sounds of all", bought("buy 0 by sounds 0+sounds 1+sounds 2+sounds 3+sounds 4+sounds 5+sounds 6"), 2);
+        due(12, "fire of 0", bought("stoke 0 times 2;buy 0 by fire 0"), 8 - 2);
+        due(12, "coal of 0", bought("stoke 0 times 2;buy 0 by coal 0"), 28 - 2);
     }
 
     private static void ordersStopped() {
