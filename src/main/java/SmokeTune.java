@@ -1032,8 +1032,10 @@ public final class SmokeTune {
 
         /** What the last clause of that kind tells that holds. */
         private int told(Script law, int verb) {
-            int clause = law == null ? NONE : law.clauses - 1;
-            for (; clause >= 0; clause--) {
+            if (law == null) {
+                return WITHOUT_LAW[verb];
+            }
+            for (int clause = law.clauses - 1; clause >= 0; clause--) {
                 if (law.head(clause, Script.VERB) != verb) {
                     continue;
                 }

@@ -100,7 +100,11 @@ public final class OracleTest {
             } else if (n < 54) {
                 call("score", any(0, 23), any(0, 127));
             } else if (n < 56) {
-                rowOfBytes();
+                if (random.nextInt(30) == 0) {
+                    overflow();
+                } else {
+                    rowOfBytes();
+                }
             } else if (n < 58) {
                 call(random.nextBoolean() ? "image" : "back", any(0, 1));
             } else if (n < 60) {
@@ -132,8 +136,8 @@ public final class OracleTest {
                         random.nextInt(20) == 0 ? wild(0, (1 << hours) - 1) : told, any(-1, hours - 1));
                     break;
                 case 10: call("rings", house()); break;
-                case 11: call("tune", any(0, 3), any(0, 8)); break;
-                case 12: call("hill", any(-1, 20)); break;
+                case 11: tuning(); break;
+                case 12: call("hill", random.nextInt(3) == 0 ? any(-1, 20) : random.nextInt(4) - 1); break;
                 case 13: call("ask", any(0, 1)); break;
                 case 14: call("chance", any(0, 127)); break;
                 case 15: call("compare", any(-1, plain.now.laws.size()), any(1, 60)); break;
@@ -141,6 +145,23 @@ public final class OracleTest {
                 case 17: call("count", any(0, 18)); break;
                 default: call("status"); break;
             }
+        }
+
+        private void tuning() {
+            int h = house();
+            if (h >= 0 && h < plain.now.houses.size() && random.nextInt(5) > 0) {
+                call("tune", plain.now.houses.get(h).street, random.nextInt(3) == 0 ? 0 : 1 + h);
+            } else {
+                call("tune", any(0, 3), any(0, 8));
+            }
+        }
+
+        private void overflow() {
+            for (int i = 0; i < 21; i++) {
+                call("feed", random.nextInt(), random.nextInt(), random.nextInt(), random.nextInt(), random.nextInt());
+            }
+            call("end", any(0, 400));
+            call(random.nextInt(3) == 0 ? "row" : random.nextBoolean() ? "law" : "orders");
         }
 
         private void rowOfBytes() {
