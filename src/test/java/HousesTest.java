@@ -231,6 +231,20 @@ public final class HousesTest {
         due(16, "0 and 2 are not beside each other", x.discord(), 2);
         due(16, "FINES are as they were", x.count(12), 0);
         discordsOfAllNotes();
+        discordsByHours();
+    }
+
+    private static void discordsByHours() {
+        SmokeTune x = new SmokeTune();
+        x.house(3, 0, 9, 0, 0);
+        x.house(4, 0, 9, 1, 1);
+        x.stoke(0);
+        x.stoke(1);
+        x.terms(0, 5);
+        x.terms(1, 70);
+        x.terms(5, 7);
+        law(x, "fines day*10+hour+mood*2");
+        due(16, "HOUR, DAY, MOOD as now", x.discord(), 719);
     }
 
     private static void discordsOfAllNotes() {
@@ -303,10 +317,13 @@ public final class HousesTest {
         law(x, "flares 0");
         due(18, "stoke(0) by 0 costs COAL, too", x.stoke(0), 10);
         due(18, "COAL", x.of(0, 2), 7);
+        law(x, "bars if hour=1 or day=1;flares 1 if hour=0 and day=0");
+        due(18, "stoke(0): HOUR and DAY as now", x.stoke(0), 11);
+        x.damp(0, 1);
         law(x, "bars;flares 9 if other=0-1");
         due(18, "bars without if", x.stoke(0), -3);
         x.force(-1);
-        law(x, "flares 9 if other=0-1");
+        due(18, "law()", law(x, "flares 9 if other=0-1"), 4);
         due(18, "other is -1", x.stoke(0), 19);
     }
 

@@ -80,7 +80,9 @@ public final class KeptTest {
         x.damp(1, 1);
         x.score(5, 0);
         x.hear(2);
+        x.stoke(1);
         x.pass();
+        due(34, "FINES behind the IMAGE", x.count(12), 2);
         law(x, "burns 4");
         x.force(2);
         x.terms(4, 1);

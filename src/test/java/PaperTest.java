@@ -176,6 +176,7 @@ public final class PaperTest {
         due(25, "tune(-1, 0)", x.tune(-1, 0), -1);
         due(25, "tune(4, 0)", x.tune(4, 0), -1);
         x.house(6, 1, 0, 0, 0);
+        due(25, "the NOTE ahead of how far", x.tune(1, 1), 6);
         x.house(0, 1, 0, 1, 1);
         x.house(3, 0, 0, 2, 2);
         x.house(4, 2, 0, 3, 3);
@@ -368,6 +369,14 @@ public final class PaperTest {
         due(31, "days go on", x.compare(2, 30), 1 + 5);
         due(31, "coal as now", x.compare(3, 5), 5);
         due(31, "the law in FORCE aside", x.compare(-1, 60), 16);
+        SmokeTune y = new SmokeTune();
+        y.house(0, 0, 0, 0, 0);
+        law(y, "flares 3-fire;burns 3 if fire=3 and hour%2=0;burns 1 if hour%2=1");
+        // 0+3, burns 3: 0+3, burns 1: 2+1, burns 3: 0+3 ..: each hour
+        due(31, "flares, burns asked of the fire then", y.compare(0, 8), 8);
+        law(y, "flares 1;flares 5 if fire=0;burns 5 if hour=3");
+        // 0+5, 4, 3, at hour 3 2+1 goes out, 0+5, 4, 3, 2+1
+        due(31, "flares by fire and hour", y.compare(1, 8), 4);
         x.terms(1, 999);
         law(x, "burns 20 if day=1000;burns 0 if day=999");
         due(31, "behind 999", x.compare(4, 30), 1 + 5);
