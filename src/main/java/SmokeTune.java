@@ -59,14 +59,13 @@ public final class SmokeTune {
     private final Town[] images = {new Town(), new Town()};
     private final boolean[] imageKept = new boolean[IMAGES];
     private final Town paperTown = new Town();
-    private final Tape tape = new Tape();
-    private final Reader reader = new Reader(tape);
-    private final Machine machine = new Machine();
-    private final Court court = new Court(machine);
-    private final Works works = new Works(court);
+    private final Reader reader = new Reader();
+    private final Tape tape = reader.tape;
+    private final Crew crew = new Crew();
+    private final Works works = crew.works;
+    private final Court court = works.court;
     private final History history = new History();
-    private final Crew crew = new Crew(works, machine);
-    private final Plan plan = new Plan(court);
+    private final Plan plan = new Plan();
     private final Paper paper = new Paper();
     private final int[] refusals = new int[5];
     private int refusedBy = 0;
@@ -718,16 +717,12 @@ public final class SmokeTune {
         private static final int[] TELLING_FROM = {Crew.FIRE_WORD, Crew.COAL_WORD, Crew.SOUNDS_WORD};
         private static final int[] TELLING_MOST = {HOUSES - 1, HOUSES - 1, NOTES - 1};
 
-        private final Tape tape;
+        private final Tape tape = new Tape();
         // each step comes of a token of its own, and has two numbers
         private final Script text = new Script(new int[Script.MOST_CLAUSES * Script.HEAD], new int[2 * Tape.ROOM], 0);
         private boolean lawful = true;
         private int parts = 0;
         private int faultAt = NONE;
-
-        private Reader(Tape tape) {
-            this.tape = tape;
-        }
 
         /** Whether the tape, which is empty then, is such a text. */
         private boolean reads(boolean asLaw) {
@@ -1005,12 +1000,8 @@ public final class SmokeTune {
         private static final int WORDS = 9;
         private static final int OTHER = 8;
 
-        private final Machine machine;
+        private final Machine machine = new Machine();
         private final int[] words = new int[WORDS];
-
-        private Court(Machine machine) {
-            this.machine = machine;
-        }
 
         /** The house that laws are asked of, with a fire, so many hours from now. */
         private void face(Town town, int house, int fire, int hours) {
@@ -1057,11 +1048,7 @@ public final class SmokeTune {
 
     /** What is done in a town, or in one on paper: what stands then, or by what it is refused. */
     private static final class Works {
-        private final Court court;
-
-        private Works(Court court) {
-            this.court = court;
-        }
+        private final Court court = new Court();
 
         private int kindle(Town town, int house) {
             if (!town.has(house)) {
@@ -1224,19 +1211,14 @@ public final class SmokeTune {
         private static final int SOUNDS_WORD = COAL_WORD + HOUSES;
         private static final int WORDS = SOUNDS_WORD + NOTES;
 
-        private final Works works;
-        private final Machine machine;
+        private final Works works = new Works();
+        private final Machine machine = new Machine();
         private final int[] words = new int[WORDS];
         private final Town townBefore = new Town();
         private final History historyBefore = new History();
         private int done = 0;
         private int met = NONE;
         private int stopped = NONE;
-
-        private Crew(Works works, Machine machine) {
-            this.works = works;
-            this.machine = machine;
-        }
 
         private int carryOut(Script text, Town town, History history) {
             townBefore.become(town);
@@ -1326,17 +1308,13 @@ public final class SmokeTune {
         private static final int FIRES = MOST_FIRE + 1;
         private static final int NEVER = 1_000;
 
-        private final Court court;
+        private final Court court = new Court();
         private final int[] burns = new int[FIRES];
         private final int[] flared = new int[FIRES];
         // by hour and fire ahead of it: the least coal from there on, how often to stoke, the fire behind it
         private final int[] coal = new int[(MOST_HOURS + 1) * FIRES];
         private final int[] stokes = new int[MOST_HOURS * FIRES];
         private final int[] after = new int[MOST_HOURS * FIRES];
-
-        private Plan(Court court) {
-            this.court = court;
-        }
 
         private int leastCoal(Town town, int house, int n, int hours, int i) {
             for (int fire = 0; fire < FIRES; fire++) {
