@@ -694,7 +694,15 @@ public final class EdgesOfTermsTest {
         x.stoke(1);
         x.force(2);
         due("230+999+9-990", x.discord(), 248);
+        law(x, "flares 7 if hour=23 and day=999;bars if hour<23 or day<999 or day>999");
+        due("stoke(2) at the last HOUR", x.stoke(2), 7);
+        x.terms(0, 22);
+        due("stoke(2) at 22", x.stoke(2), -3);
+        x.terms(0, 23);
+        x.terms(1, 998);
+        due("stoke(2) at 23 of 998", x.stoke(2), -3);
         by("A CLAUSE HOLDS, if its \"if\" (if it has one) is so, and neither that nor its SUM is BROKEN");
+        x = town(1);
         law(x, "burns 5;burns 6 if 1/0=0;burns 7 if 1=2;burns 8/0;burns 9/0 if 1=1");
         due("the last that HOLDS", x.of(0, 8), 5);
         law(x, "bars if 1/0=0;bars if 1=2");
@@ -837,7 +845,17 @@ public final class EdgesOfTermsTest {
                 due("coal " + h + " of " + houses, orders(x, "pass if coal " + h + "=" + (there ? "998" : "0-1")), 1);
             }
         }
+        by("Words: \"hour\" | \"day\" | \"fines\" | \"done\" | \"met\" | \"fire\" H | \"coal\" H | \"sounds\" N");
+        SmokeTune z = town(2);
+        z.stoke(0);
+        z.stoke(1);
+        z.terms(0, 22);
+        z.terms(1, 998);
+        due("hour, day, fines", orders(z, "pass if hour=22 and day=998 and fines=0;pass if hour=23 and day=998 and fines=1"), 2);
+        due("hour, day, fines around", orders(z, "pass if hour=0 and day=999 and fines=2"), 1);
         by("sounds: how many HOUSES SOUND with that NOTE");
+        SmokeTune w = town(1);
+        due("sounds 0", orders(w, "pass if sounds 0=0;stoke 0;pass if sounds 0=1;pass if sounds 0=1;pass if sounds 0=0"), 5);
         SmokeTune x = new SmokeTune();
         for (int h = 0; h < 8; h++) {
             x.house(6, 0, 9, h, h);
@@ -1196,6 +1214,16 @@ public final class EdgesOfTermsTest {
         for (int h = 0; h < row.length; h++) {
             due("tune(0, " + (1 + h) + ")", y.tune(0, 1 + h), row[h]);
         }
+        by("the first as a row of NOTES by HOUSES");
+        int[][] rows = {{4, 5, 3, 5}, {5, 4, 4, 4}, {1, 2, 0, 2}, {0, 1, 0, 0}, {6, 5, 0, 5}, {5, 6, 4, 6}, {6, 0, 0, 0}, {0, 6, 0, 0}};
+        for (int[] r : rows) {
+            SmokeTune two = new SmokeTune();
+            two.house(r[0], 1, 0, 0, 0);
+            two.house(r[1], 1, 0, 1, 1);
+            due("moved of " + r[0] + ", " + r[1], two.tune(1, 0), 1);
+            due("the first of " + r[0] + ", " + r[1], two.tune(1, 1), r[2]);
+            due("the second of " + r[0] + ", " + r[1], two.tune(1, 2), r[3]);
+        }
         by("new NOTES of its HOUSES, no two beside each other");
         SmokeTune z = new SmokeTune();
         for (int h = 0; h < 8; h++) {
@@ -1311,6 +1339,22 @@ public final class EdgesOfTermsTest {
         due("law 1", x.compare(1, 1), -1);
         due("law -2", x.compare(-2, 1), -1);
         due("law MIN", x.compare(MIN, 1), -1);
+        SmokeTune z = town(1);
+        law(z, "burns 0;burns 20 if hour=0;flares 3");
+        // 3 goes out at 0, 3 again at 1, and stays
+        due("a FIRE of 0 at least", z.compare(0, 3), 2);
+        z.terms(2, 4);
+        // 3 goes out, 3, 6
+        due("a FIRE of 0 at most", z.compare(0, 3), 3);
+        due("once more it is not stoked", z.compare(0, 4), 3);
+        by("(On paper; HOURS, DAYS in laws as they go on there, also behind 999:)");
+        SmokeTune w = town(1);
+        w.terms(0, 23);
+        w.terms(1, 999);
+        law(w, "burns 0;burns 20 if hour=23 and day=999;burns 20 if hour=0 and day=1000;flares 2;flares 3 if hour=2 and day=1000");
+        // 2 goes out at 23, 2 at 0, 2 at 1; at 2 it is 2 and 3, which stays
+        due("around 23", w.compare(0, 4), 4);
+        due("behind 999", w.compare(0, 60), 4);
         by("(as much COAL as it takes, \"coal\" as now, BARS aside)");
         SmokeTune y = new SmokeTune();
         y.house(0, 0, 0, 0, 0);
