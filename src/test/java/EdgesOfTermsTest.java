@@ -176,6 +176,7 @@ public final class EdgesOfTermsTest {
         due("the other one's FIRE", x.of(1, 5), 0);
         by("WARMTH 0 .. 9,999 (0 at first)");
         due("WARMTH at first", x.of(0, 6), 0);
+        by("all WARMTHS are more by their FIRES (9,999 at most)");
         kindle(x, 0, 20);
         law(x, "burns 0");
         due("480 HOURS", orders(x, "pass times 20" + many(";pass times 20", 11)) + orders(x, "pass times 20" + many(";pass times 20", 11)), 480);
@@ -263,6 +264,7 @@ public final class EdgesOfTermsTest {
         due("count(12)", x.count(12), 0);
         x.stoke(0);
         x.stoke(1);
+        by("FINES are more by all discords together (99,999 at most)");
         law(x, "burns 0;fines 999");
         due("100 HOURS", orders(x, "pass times 20" + many(";pass times 20", 4)), 100);
         due("FINES of 100 HOURS", x.count(12), 99_900);
@@ -920,6 +922,16 @@ public final class EdgesOfTermsTest {
         order("damp 1/0 by 1/0 times 20 if 1=2", 0);
         order("stoke 9 times 20 if done>1", 0);
         order("damp 0 by 1 times 20 if fire 0>2", 2);
+        by("ends it: all is as it was ahead of it.");
+        SmokeTune y = town(1);
+        y.stoke(0);
+        due("damp, buy, stoke, pass, then one that can't be", orders(y, "damp 0 by 4;buy 0 by 1;stoke 0 times 2;pass times 2;stoke 1"), -3);
+        due("FIRE", y.of(0, 5), 4);
+        due("COAL", y.of(0, 2), 998);
+        due("WARMTH", y.of(0, 6), 0);
+        due("HOUR", y.count(13), 0);
+        due("count(4)", y.count(4), 1);
+        due("undo()", y.undo(), 0);
         by("Run CLAUSE by CLAUSE, each as often as TIMES tell (once without)");
         SmokeTune x = new SmokeTune();
         x.house(0, 0, 3, 0, 0);
